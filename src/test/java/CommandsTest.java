@@ -15,6 +15,9 @@ final class CommandsTest {
         textBeforeRead();
         undo();
         undoOfEveryChange();
+        undoAfterUndo();
+        undoBringsBackMessages();
+        newOnesAfterUndoAreNew();
         whatIsNoChange();
         refusedCallsKeepHistory();
         undoOfText();
@@ -311,6 +314,61 @@ final class CommandsTest {
         Check.due(50, 0, x::undo);
         Check.due(50, 0, x::messageCount);
         Check.due(50, 0, () -> x.say(1, 0, 3));
+    }
+
+    private static void undoAfterUndo() {
+        DrumWarren x = Warrens.withChambers(3);
+        x.addTunnel(0, 1, 1);
+        x.undo();
+        x.addHare(0);
+        x.addTunnel(1, 2, 2);
+        x.undo();
+        Check.due(50, 1, x::hareCount);
+        Check.due(50, 0, x::tunnelCount);
+        x.addTunnel(0, 2, 3);
+        Check.due(50, 4, x::undo);
+        Check.due(50, 0, x::tunnelCount);
+        Check.due(50, 3, x::undo);
+        Check.due(50, 0, x::hareCount);
+    }
+
+    private static void undoBringsBackMessages() {
+        DrumWarren x = Warrens.withHares(Warrens.withChambers(1), 0, 0, 0);
+        x.say(0, 1, 12);
+        x.say(2, 0, 3);
+        x.forget(0);
+        x.forget(1);
+        x.say(1, 2, 7);
+        x.undo();
+        x.undo();
+        x.undo();
+        Check.due(50, 9, () -> x.writeMessage(0));
+        Check.due(50, "0:0>1=12w", () -> Warrens.output(x));
+        Check.due(50, 8, () -> x.writeMessage(1));
+        Check.due(50, "1:2>0=3w", () -> Warrens.output(x));
+        Check.due(50, 2, () -> x.passTicks(10));
+        Check.due(50, 12, () -> x.latestNumber(1));
+    }
+
+    private static void newOnesAfterUndoAreNew() {
+        DrumWarren x = Warrens.withHares(Warrens.withChambers(1), 0, 0);
+        x.say(0, 1, 9);
+        x.passTicks(5);
+        x.say(0, 1, 9);
+        x.setListening(1, false);
+        x.passTicks(7);
+        for (int i = 0; i < 6; i++) {
+            x.undo();
+        }
+        x.addHare(0);
+        Check.due(50, 0, () -> x.received(1));
+        Check.due(50, Check.ELEMENT, () -> x.latestNumber(1));
+        Check.due(50, true, () -> x.isListening(1));
+        x.say(1, 0, 4);
+        x.say(0, 1, 5);
+        Check.due(50, 0, () -> x.timesLost(1));
+        Check.due(50, 0, () -> x.beatsDrummed(1));
+        Check.due(50, "ww", () -> Warrens.states(x));
     }
 
     private static void whatIsNoChange() {
