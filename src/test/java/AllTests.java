@@ -1,4 +1,4 @@
-/** Runs every test of the project; its argument is the path of DrumWarren.java. */
+/** Runs every test of the project; its arguments are the paths of DrumWarren.java and of the document. */
 public final class AllTests {
     private AllTests() {
     }
@@ -10,6 +10,15 @@ public final class AllTests {
         TicksTest.run();
         OutputTest.run();
         CommandsTest.run();
+        TermsEdgesTest.run();
+        TextTermsEdgesTest.run();
+        ChamberEdgesTest.run();
+        HareEdgesTest.run();
+        MessageEdgesTest.run();
+        TickEdgesTest.run();
+        OutputEdgesTest.run();
+        CommandEdgesTest.run();
+        SentenceTests.compareWith(arguments[1]);
         RandomRunsTest.run();
         LanguageTest.run(arguments[0]);
         if (!Check.report()) {

@@ -10,6 +10,7 @@ final class Check {
     static final Class<?> UNSUPPORTED = UnsupportedOperationException.class;
     static final Class<?> ARITHMETIC = ArithmeticException.class;
 
+    // The place 0 is that of "Terms", which speaks for all promises.
     private static final int[] CHECKS = new int[PROMISES + 1];
     private static int wrong;
 
@@ -33,15 +34,21 @@ final class Check {
         CHECKS[promise]++;
         Object got = answer(call);
         if (!want.equals(got)) {
-            wrong++;
-            System.out.println("promise " + promise + ": answered " + got + ", due is " + want
-                    + " (" + place() + ")");
+            wrong(heading(promise) + ": answered " + got + ", due is " + want + " (" + place() + ")");
         }
     }
 
     static void wrong(String what) {
         wrong++;
         System.out.println(what);
+    }
+
+    static String heading(int promise) {
+        return promise == 0 ? "terms" : "promise " + promise;
+    }
+
+    static int checksOf(int promise) {
+        return CHECKS[promise];
     }
 
     private static String place() {
@@ -57,13 +64,13 @@ final class Check {
     /** Reports, and returns whether every answer was due and every promise was checked. */
     static boolean report() {
         int total = 0;
-        for (int promise = 1; promise <= PROMISES; promise++) {
+        for (int promise = 0; promise <= PROMISES; promise++) {
             total += CHECKS[promise];
             if (CHECKS[promise] == 0) {
-                wrong("promise " + promise + " has no check");
+                wrong(heading(promise) + " has no check");
             }
         }
-        System.out.println(total + " checks of " + PROMISES + " promises, " + wrong + " wrong");
+        System.out.println(total + " checks of the terms and " + PROMISES + " promises, " + wrong + " wrong");
         return wrong == 0;
     }
 }
