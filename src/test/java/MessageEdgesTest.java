@@ -229,17 +229,29 @@ final class MessageEdgesTest extends SentenceTests {
                 due(i, x::messageCount);
             }
         });
+        test(25, "Returns a message by the position in ascending order of ids.", () -> {
+            DrumWarren x = said(8);
+            x.forget(3);
+            x.say(1, 0, 1);
+            x.forget(0);
+            x.say(0, 1, 1);
+            // The order is that of the ids, whatever became of the messages.
+            x.passTicks(40);
+            int[] due = {1, 2, 4, 5, 6, 7, 8, 9};
+            for (int i = 0; i < 8; i++) {
+                int position = i;
+                due(due[position], () -> x.message(position));
+            }
+        });
         test(25, "Returns the id of the message.", () -> {
             DrumWarren x = said(8);
             due(0, () -> x.message(0));
             due(7, () -> x.message(7));
             x.forget(0);
             due(1, () -> x.message(0));
-            x.say(0, 1, 1);
-            due(8, () -> x.message(7));
+            due(7, () -> x.message(6));
             x.forget(4);
             due(5, () -> x.message(3));
-            due(8, () -> x.message(6));
         });
         test(25, "Throws `IndexOutOfBoundsException` if there is no such position", () -> {
             for (int messages : new int[] {0, 1, 8}) {
@@ -331,7 +343,7 @@ final class MessageEdgesTest extends SentenceTests {
     }
 
     private static void beatsDrummed() {
-        test(30, "Returns the number of beats, 0 if it is not being drummed.", () -> {
+        test(30, "Returns the number of beats of a message that were drummed in the present attempt.", () -> {
             DrumWarren x = said(1);
             x.setListening(1, false);
             for (int tick = 0; tick < 20; tick++) {
@@ -339,14 +351,26 @@ final class MessageEdgesTest extends SentenceTests {
                 due(due, () -> x.beatsDrummed(0));
                 x.passTicks(1);
             }
-            DrumWarren y = said(2);
-            y.passTicks(4);
-            due(4, () -> y.beatsDrummed(0));
-            due(0, () -> y.beatsDrummed(1));
-            y.passTicks(1);
-            due(0, () -> y.beatsDrummed(0));
-            y.passTicks(1);
-            due(1, () -> y.beatsDrummed(1));
+        });
+        test(30, "Returns the number of beats, 0 if it is not being drummed.", () -> {
+            DrumWarren x = said(2);
+            due(0, () -> x.beatsDrummed(0));
+            x.passTicks(4);
+            due(4, () -> x.beatsDrummed(0));
+            due(0, () -> x.beatsDrummed(1));
+            x.passTicks(1);
+            due(0, () -> x.beatsDrummed(0));
+            due(0, () -> x.beatsDrummed(1));
+            x.passTicks(1);
+            due(0, () -> x.beatsDrummed(0));
+            due(1, () -> x.beatsDrummed(1));
+            // Lost it waits, and after the third time it is not drummed any more.
+            x.setListening(1, false);
+            x.passTicks(4);
+            due(0, () -> x.beatsDrummed(1));
+            x.passTicks(40);
+            due('l', () -> x.state(1));
+            due(0, () -> x.beatsDrummed(1));
         });
         test(30, "Throws `NoSuchElementException` if there is no such message",
                 () -> refusedWithoutMessage(DrumWarren::beatsDrummed));
@@ -411,6 +435,29 @@ final class MessageEdgesTest extends SentenceTests {
     }
 
     private static void ticksUntilDelivery() {
+        test(33, "Returns after how many ticks a message is delivered if only ticks pass.", () -> {
+            DrumWarren x = said(8);
+            for (int i = 0; i < 8; i++) {
+                int id = i;
+                due(5, () -> x.ticksUntilDelivery(id));
+                x.passTicks(4);
+                due('d', () -> x.state(id));
+                due(1, () -> x.ticksUntilDelivery(id));
+                x.passTicks(1);
+                due('r', () -> x.state(id));
+            }
+            // What happens besides the ticks is not foreseen, and asking changes nothing.
+            DrumWarren y = said(2);
+            due(10, () -> y.ticksUntilDelivery(1));
+            due(0, y::ticks);
+            due("ww", () -> Warrens.states(y));
+            y.forget(0);
+            due(5, () -> y.ticksUntilDelivery(1));
+            y.setListening(1, false);
+            due(Check.UNSUPPORTED, () -> y.ticksUntilDelivery(1));
+            y.setListening(1, true);
+            due(5, () -> y.ticksUntilDelivery(1));
+        });
         test(33, "Returns the number of ticks, 1 to 60.", () -> {
             DrumWarren x = said(8);
             due(5, () -> x.ticksUntilDelivery(0));

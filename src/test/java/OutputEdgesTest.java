@@ -184,6 +184,14 @@ final class OutputEdgesTest extends SentenceTests {
                     due(5, () -> x.writeCode(8));
                     due("x...x", () -> Warrens.output(x));
                 });
+        test(43, "Returns the length of the output.", () -> {
+            DrumWarren x = new DrumWarren();
+            for (int i = 0; i < 16; i++) {
+                int number = i;
+                due(5, () -> x.writeCode(number));
+                due(5, () -> Warrens.output(x).length());
+            }
+        });
         test(43, "Throws `IllegalArgumentException` if number is not from 0 to 15", () -> {
             for (int bad : outside(16)) {
                 refused(Check.ARGUMENT, DrumWarren::new, x -> x.writeCode(bad));
@@ -221,6 +229,31 @@ final class OutputEdgesTest extends SentenceTests {
     }
 
     private static void isConsistent() {
+        test(45, "Checks by second methods whether the warren is consistent: shortestDelay and shortestDelayBySearch agree "
+                + "for all pairs of chambers, decoding the code of each number gives this number, and at most one message is "
+                + "being drummed in each chamber.", () -> {
+                    DrumWarren x = Warrens.full();
+                    for (int i = 0; i < 64; i++) {
+                        int from = i / 8;
+                        int to = i % 8;
+                        due(x.shortestDelay(from, to), () -> x.shortestDelayBySearch(from, to));
+                    }
+                    for (int i = 0; i < 16; i++) {
+                        int number = i;
+                        int code = codeOf(x, number);
+                        due(number, () -> x.decode(code));
+                    }
+                    DrumWarren crowded = together(6);
+                    for (int i = 0; i < 8; i++) {
+                        crowded.say(i % 6, (i + 1) % 6, i);
+                    }
+                    for (int i = 0; i < 16; i++) {
+                        long drummed = Warrens.states(crowded).chars().filter(state -> state == 'd').count();
+                        due(true, () -> drummed <= 1);
+                        due(true, crowded::isConsistent);
+                        crowded.passTicks(1);
+                    }
+                });
         test(45, "Returns true if it is consistent.", () -> {
             due(true, () -> new DrumWarren().isConsistent());
             due(true, () -> Warrens.withChambers(8).isConsistent());
@@ -230,14 +263,14 @@ final class OutputEdgesTest extends SentenceTests {
                 due(true, x::isConsistent);
                 x.passTicks(1);
             }
-            DrumWarren crowded = together(6);
-            for (int i = 0; i < 8; i++) {
-                crowded.say(i % 6, (i + 1) % 6, i);
-            }
-            for (int i = 0; i < 20; i++) {
-                crowded.passTicks(1);
-                due(true, crowded::isConsistent);
-            }
         });
+    }
+
+    private static int codeOf(DrumWarren x, int number) {
+        int code = 0;
+        for (int beat = 0; beat < 5; beat++) {
+            code = 2 * code + (x.isThump(number, beat) ? 1 : 0);
+        }
+        return code;
     }
 }
