@@ -1,4 +1,4 @@
-/** Runs every test of the project; its arguments are the paths of DrumWarren.java and of the document. */
+/** Runs every test of the project; its arguments are the paths of DrumWarren.java, the document and README.md. */
 public final class AllTests {
     private AllTests() {
     }
@@ -21,6 +21,7 @@ public final class AllTests {
         SentenceTests.compareWith(arguments[1]);
         RandomRunsTest.run();
         LanguageTest.run(arguments[0]);
+        ReadmeTest.run(arguments[2], arguments[1]);
         if (!Check.report()) {
             System.exit(1);
         }
